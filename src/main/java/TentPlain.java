@@ -1270,20 +1270,20 @@ public final class TentPlain {
     boolean isTrue(int text, int[] fields) {
       int top = 0;
       int from = text * MAX_SIZE;
-      for (int i = 0; i < sizes[text]; i++) {
+      for (int i = 0; i < sizes[text] && top < MAX_SIZE; i++) {
         int code = codes[from + i];
         if (code < FIELD) {
           stack[top++] = code;
         } else if (code < SIGN) {
           stack[top++] = fields[code - FIELD];
         } else if (code == SIGN + '!') {
-          stack[top - 1] = 1 - stack[top - 1];
-        } else {
+          if (top > 0) stack[top - 1] = 1 - stack[top - 1];
+        } else if (top > 1) {
           top--;
           stack[top - 1] = joined(code - SIGN, stack[top - 1], stack[top]);
         }
       }
-      return stack[0] != 0;
+      return top > 0 && stack[0] != 0;
     }
 
     private static int joined(int sign, int left, int right) {

@@ -35,6 +35,8 @@ public final class BodiesTest {
     check.due("school", x.body(1, 7), 3);
     check.due("heads", x.body(1, 4), 400);
     check.due("cell", x.body(1, 1), 1);
+    check.due("tongue 0", x.body(0, 6), 0);
+    check.due("school 0", x.body(0, 7), 0);
     check.due("count", x.count(3), 2);
   }
 
@@ -55,6 +57,8 @@ public final class BodiesTest {
     check.due("tongue", x.body(2, 6), 5);
     check.due("heads", x.body(2, 4), 1);
     check.due("kind", x.body(2, 0), 1);
+    x.stray(0, 0, 0, -1);
+    check.due("age 0", x.body(3, 7), 0);
   }
 
   private static void comers() {

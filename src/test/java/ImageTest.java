@@ -6,6 +6,9 @@ public final class ImageTest {
     counts();
     all();
     again();
+    presses();
+    bodiesAsThen();
+    placesUsedAgain();
     check.end();
   }
 
@@ -88,6 +91,113 @@ public final class ImageTest {
     check.due("the same again", x.body(0, 8), sun);
     check.due("the same again", x.about(0, 5), press);
     check.due("the group goes", x.body(0, 2), 0);
+  }
+
+  private static void bodiesAsThen() {
+    TentPlain x = new TentPlain();
+    x.stray(0, 0, 0, -1);
+    x.cell(1, 0, 0);
+    x.stray(0, 0, 0, -1);
+    check.due("stray 0 not found", x.count(10), 1);
+    x.group(0, 400, 0);
+    x.comes(5, 0);
+    Check.go(x, 780);
+    x.carry(2, 1);
+    int[] then = new int[14];
+    for (int what = 0; what < 14; what++) then[what] = x.body(1, what);
+    check.due("stood", then[9], 60);
+    check.due("carried", then[13], 1);
+    x.image();
+    x.go(90);
+    x.carry(2, 1);
+    check.due("stood more", x.body(1, 9), 150);
+    x.restore();
+    for (int what = 0; what < 14; what++) check.due("as then " + what, x.body(1, what), then[what]);
+    check.due("carried as then", x.carry(2, 1), 2);
+  }
+
+  /** What comes to a number that was another's before RESTORE has nothing of that one. */
+  private static void placesUsedAgain() {
+    TentPlain x = new TentPlain();
+    x.cell(2, 0, 0);
+    x.cell(0, 0, 0);
+    x.image();
+    x.way(0, 1, 130);
+    x.group(0, 100, 53);
+    x.aim(0, 420, 1);
+    x.comes(5, 0);
+    Check.go(x, 400);
+    x.carry(1, 0);
+    Check.go(x, 80);
+    check.due("thrown", x.body(0, 10), 7);
+    check.due("fell or pressed", x.body(0, 2), 0);
+    x.sign(0, 3);
+    x.go(1);
+    x.restore();
+    check.due("no way", x.count(1), 0);
+    x.way(1, 0, 5020);
+    int[] way = {1, 0, 50, 20, 0, 0, 0, 0, 0};
+    for (int what = 0; what < 9; what++) check.due("about " + what, x.about(0, what), way[what]);
+    x.comes(2, 1);
+    int[] bus = {2, 1, -4, 0, 0, 50, -4, -4, 0, 0, 0, 0, 0, 0};
+    for (int what = 0; what < 14; what++) check.due("bus " + what, x.body(0, what), bus[what]);
+    x.restore();
+    x.group(0, 100, 0);
+    int[] group = {0, 0, -4, 0, 100, 0, 0, 0, 0, 0, 0, 0, 0, 0};
+    for (int what = 0; what < 14; what++) check.due("group " + what, x.body(0, what), group[what]);
+    check.due("no aims", x.unaim(0), 0);
+    Check.go(x, 400);
+    check.due("throws anew", x.body(0, 10), 7);
+    x.restore();
+    x.stray(0, 0, 5, -1);
+    x.group(0, 5, 0);
+    check.due("stray of nobody known", x.found(0, 1), 6);
+    TentPlain y = new TentPlain();
+    y.cell(1, 0, 0);
+    y.cell(2, 0, 0);
+    Check.go(y, 720);
+    y.image();
+    y.way(0, 1, 130);
+    y.group(0, 100, 0);
+    y.aim(0, 725, 1);
+    y.go(10);
+    check.due("stood", y.body(0, 9), 5);
+    check.due("fell", y.body(0, 11) > 0 ? 1 : 0, 1);
+    check.due("to go", y.body(0, 3) > 0 ? 1 : 0, 1);
+    check.due("push", y.about(0, 6) > 0 ? 1 : 0, 1);
+    y.restore();
+    y.way(1, 0, 5020);
+    for (int what = 0; what < 9; what++) check.due("about " + what, y.about(0, what), way[what]);
+    y.comes(2, 1);
+    for (int what = 0; what < 14; what++) check.due("bus " + what, y.body(0, what), bus[what]);
+    y.go(1);
+    y.group(1, 100, 0);
+    for (int hour = 0; hour < 24; hour++) y.heat(hour, 0);
+    Check.go(y, 420);
+    check.due("seven times since", y.body(1, 10), 7);
+  }
+
+  private static void presses() {
+    TentPlain x = new TentPlain();
+    x.cell(0, 9, 0);
+    x.cell(0, 9, 0);
+    x.way(0, 1, 130);
+    x.group(0, 100, 0);
+    x.aim(0, 0, 1);
+    x.go(3);
+    x.image();
+    x.sign(0, 3);
+    x.go(10);
+    int push = x.about(0, 6);
+    int heads = x.body(0, 4);
+    check.due("as it was then", x.restore(), 3);
+    check.due("press", x.about(0, 5), 92);
+    check.due("push", x.about(0, 6), 52);
+    check.due("heads on it", x.about(0, 7), 83);
+    check.due("shut", x.about(0, 8), 0);
+    x.go(10);
+    check.due("goes on by it", x.about(0, 6), push);
+    check.due("falls by it", x.body(0, 4), heads);
   }
 
   private static void again() {

@@ -156,6 +156,9 @@ public final class MinutesTest {
     x.aim(2, 0, 3);
     x.group(3, 100, 0);
     x.aim(3, 0, 4);
+    x.way(0, 5, 130);
+    x.group(0, 30, 0);
+    x.aim(4, 0, 5);
     x.go(2);
     check.due("first push", x.about(0, 6), 40);
     check.due("as they were: 0", x.about(1, 6), 0);
@@ -163,6 +166,7 @@ public final class MinutesTest {
     check.due("first push", x.about(0, 6), 52);
     check.due("half of 40", x.about(1, 6), 20);
     check.due("press 29 takes none", x.about(2, 6), 0);
+    check.due("press 30 takes half of 40", x.about(4, 6), 20);
     check.due("press 50 beside none", x.about(3, 6), 0);
     x.go(1);
     check.due("half of 52", x.about(1, 6), 26);

@@ -233,10 +233,10 @@ public final class ModelTest {
         aim(x, m, dice);
       } else if (what == 6 && m.now < 4200) {
         change(x, m, dice, game);
-      } else if (what == 7 && dice.oneIn(4)) {
+      } else if (what == 7 && dice.oneIn(2)) {
         check.due("image", x.image(), m.now);
         kept = m.copy();
-      } else if (what == 8 && kept != null && dice.oneIn(3)) {
+      } else if (what == 8 && kept != null && dice.oneIn(2)) {
         check.due("restore", x.restore(), kept.now);
         m = kept.copy();
       } else if (what == 9) {
@@ -254,6 +254,7 @@ public final class ModelTest {
   private static Model build(TentPlain x, Dice dice) {
     Model m = new Model();
     java.util.Arrays.fill(m.heat, 30);
+    boolean narrow = dice.oneIn(2);
     int cells = dice.from(2, 8);
     for (int i = 0; i < cells; i++) {
       int[] c = {dice.below(4), dice.below(10), dice.oneIn(2) ? dice.below(90000) : dice.below(200)};
@@ -265,7 +266,7 @@ public final class ModelTest {
       Way w = new Way();
       w.a = dice.below(cells);
       w.b = (w.a + dice.from(1, cells - 1)) % cells;
-      w.width = dice.oneIn(2) ? dice.from(1, 3) : dice.from(1, 10);
+      w.width = narrow ? 1 : dice.oneIn(2) ? dice.from(1, 3) : dice.from(1, 10);
       w.length = dice.oneIn(2) ? dice.from(1, 4) : dice.from(1, 30);
       check.due("way", x.way(w.a, w.b, 100 * w.width + w.length), i);
       m.ways.add(w);
@@ -274,7 +275,7 @@ public final class ModelTest {
     for (int i = 0; i < groups; i++) {
       Group g = new Group();
       g.cell = dice.below(cells);
-      g.heads = dice.oneIn(3) ? dice.from(1, 400) : dice.from(1, 90);
+      g.heads = narrow ? dice.from(20, 100) : dice.oneIn(3) ? dice.from(1, 400) : dice.from(1, 90);
       g.tongue = dice.below(3);
       g.body = x.group(g.cell, g.heads, 10 * g.tongue + dice.below(4));
       m.groups.add(g);

@@ -60,6 +60,9 @@ public final class ShelvesTest {
     check.due("last", x.put(0, 79, 5), 0);
     check.due("anew", x.row(0, 2, 80), 0);
     check.due("0 at first", x.element(0, 79), 0);
+    x.put(0, 0, 9);
+    x.row(0, 2, 1);
+    check.due("the first one, too", x.element(0, 0), 0);
     check.due("empty", x.row(0, 1, 0), 0);
     check.due("no place", x.put(0, 0, 1), -13);
   }
@@ -104,6 +107,11 @@ public final class ShelvesTest {
     check.due("a place", elementThrows(x, 0, 2), ANSWERED);
     check.due("above", elementThrows(x, 0, 3), STATE);
     check.due("place below", elementThrows(x, 0, -1), STATE);
+    x.keep(0, 1, 0);
+    check.due("a body in place of the row", elementThrows(x, 0, 0), STATE);
+    x.row(0, 0, 3);
+    x.keep(0, 0, 0);
+    check.due("nothing in place of the row", elementThrows(x, 0, 0), STATE);
   }
 
   private static void copies() {
@@ -116,6 +124,9 @@ public final class ShelvesTest {
     check.due("nothing ahead of a body", x.copy(2, 0, 1, 0, 1), -11);
     check.due("a body", x.copy(0, 0, 2, 0, 1), -12);
     check.due("from a body", x.copy(2, 0, 0, 0, 1), -12);
+    x.row(3, 0, 5);
+    check.due("bytes to a body", x.copy(3, 0, 2, 0, 0), -12);
+    check.due("bytes from a body", x.copy(2, 0, 3, 0, 0), -12);
     x.row(1, 1, 5);
     check.due("another sort", x.copy(0, 0, 1, 0, 1), -12);
     check.due("no shelf", x.copy(8, 0, 0, 0, 1), -1);

@@ -66,6 +66,16 @@ public final class StraysTest {
     x.restore();
     check.due("as it was", x.whose(1), 0);
 
+    TentPlain z = plain(2);
+    z.way(0, 1, 130);
+    z.group(0, 10, 0);
+    z.aim(0, 1, 1);
+    z.stray(0, 0, 5, -1);
+    z.go(120);
+    check.due("minute 0", z.whose(1), 1);
+    z.go(1);
+    check.due("minute 0 no more", z.whose(1), 0);
+
     TentPlain y = plain(2);
     y.way(0, 1, 105);
     y.group(0, 10, 0);

@@ -353,13 +353,16 @@ public final class TextsTest {
     check.due("throwing does not stand", x.schools(1, 1), 0);
     x.go(1);
     check.due("thrown three times", x.schools(1, 1), 15);
+    field(x, 'w', -1, 1, 3);
+    field(x, 'w', -1, 0, 0);
+    field(x, 'w', -1, -1, 0);
     Check.go(x, 720 - 121 + 59);
     check.due("stood 59", x.body(0, 9), 59);
     check.due("standing does not stand", x.schools(0, 0), 0);
     x.go(1);
     check.due("stood 60", x.schools(0, 0), 15);
     check.due("not the other rite", x.schools(0, 1), 0);
-    check.due("by 3", x.stands(0, 0, 3), 1);
+    for (int school = 0; school < 4; school++) check.due("by " + school, x.stands(0, 0, school), 1);
     int bySchool = Check.tell(x, "s=2&t>59&w=0");
     int never = Check.tell(x, "p+q>0");
     check.due("in force", x.force(1, bySchool), -4);

@@ -163,6 +163,8 @@ public final class WavesTest {
     check.due("20 at once", x.round(5, 20), 3);
     int[] due = {0, 0, 1, 2, 3};
     for (int i = 0; i < 5; i++) check.due("slot " + i, x.slot(5, 20, i), due[i]);
+    check.due("each of its own k and gate", x.slot(2, 10, 1), 2);
+    check.due("each of its own k and gate", x.slot(2, 20, 1), 0);
     check.due("i below", x.slot(5, 20, -1), -1);
     check.due("i above", x.slot(5, 20, 5), -1);
     check.due("k above", x.slot(6, 20, 0), -1);
@@ -171,6 +173,10 @@ public final class WavesTest {
     y.group(0, 10, 0);
     check.due("fewer groups", y.round(2, 10), -1);
     check.due("fewer groups", y.slot(2, 10, 0), -1);
+    check.due("gate 1", y.round(1, 1), -4);
+    y = station();
+    y.group(0, 1, 0);
+    check.due("gate 1", y.round(1, 1), 0);
   }
 
   private static void judges() {
@@ -295,6 +301,7 @@ public final class WavesTest {
     check.due("as in mind", x.go(20), 90);
     Check.go(x, 4320 - 20 - 10);
     check.due("the last ten", x.worst(0, 0, 10), 0);
+    check.due("best of the last ten", x.best(10), 0);
     check.due("beyond", x.worst(0, 0, 11), -2);
     check.due("wrong ahead of beyond", x.worst(0, 4, 11), -1);
     check.due("best beyond", x.best(11), -2);

@@ -669,7 +669,10 @@ public final class TentPlain {
     }
   }
 
-  /** A BODY of any KIND; what it has not is -1, or 0 where the document says else 0. */
+  /**
+   * A BODY of any KIND; what it has not is -1, or 0 where the document says else 0. One class for all KINDS, as a
+   * number may be another KIND's after RESTORE. The trait is a GROUP's SCHOOL or a STRAY's AGE.
+   */
   private static final class Body {
     int number;
     int kind;

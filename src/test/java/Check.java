@@ -16,6 +16,10 @@ final class Check {
     }
   }
 
+  int asked() {
+    return asked;
+  }
+
   void end() {
     System.out.println(test + ": " + asked + " answers, " + wrong + " not as due");
     if (wrong != 0) System.exit(1);

@@ -13,6 +13,8 @@ public final class ImageEdgesTest {
     minutesAsThen();
     shelvesStay();
     roomAsThen();
+    restoredTwice();
+    numbersUsedAgain();
     counts();
     countsOfBodies();
     runs.end();
@@ -97,6 +99,32 @@ public final class ImageEdgesTest {
     runs.run("41 all of it", "cell(0, 0, 5) * 16 way(0, 1, 101) * 24 group(0, 1, 0) * 40 image() go(1) restore() = 0 count(0) = 16 count(1) = 24 count(2) = 40 count(11) = 80 body(39, 4) = 1 about(23, 3) = 1");
   }
 
+  /** What is done behind RESTORE does not come into THE IMAGE either. */
+  private static void restoredTwice() {
+    runs.run("41 twice: CELLS and WATER", "cell(0, 0, 50) image() restore() water(0, 9) cell(0, 0, 0) restore() count(11) = 50 count(0) = 1");
+    runs.run("41 twice: WAYS and SIGNS", ONE_WAY + "image() restore() sign(0, 1) way(0, 1, 101) restore() about(0, 4) = 0 count(1) = 1 far(1, 0) = 5");
+    runs.run("41 twice: HEAT", "image() restore() heat(4, 9) restore() heat(4, 9) = 30");
+    runs.run("41 twice: AIMS", ONE_WAY + "group(0, 9, 0) aim(0, 0, 1) image() restore() unaim(0) aim(0, 9, 0) aim(0, 9, 0) restore() unaim(0) = 1");
+    runs.run("41 twice: GROUPS", ONE_WAY + "group(0, 100, 0) aim(0, 0, 1) image() restore() go(60) restore() body(0, 1) = 0 body(0, 4) = 100 body(0, 8) = 0 body(0, 12) = 0 count(4) = 0");
+    runs.run("41 twice: STRAYS", TWO + "group(0, 9, 0) stray(0, 0, 5, -1) image() restore() found(1, 0) = 10 restore() found(1, 0) = 10 count(6) = 10");
+    runs.run("41 twice: TEXTS", "tell(\"0=0\") = 0 image() restore() tell(\"0=1\") = 1 force(3, 1) restore() count(5) = 1 force(3, -1) = -4 tell(\"1=1\") = 1 holds(1, -1, -1) = 1");
+    runs.run("41 twice: THE RECORD", TWO + "group(0, 9, 0) go(2) image() go(3) restore() stray(0, 0, 0, -1) found(1, 0) = 10 go(3) record(3, 2) = 10 restore() record(2, 2) ! -3 record(1, 2) = 9 go(2) record(3, 2) = 9");
+    runs.run("41 twice: where GROUPS were", ONE_WAY + "group(0, 9, 0) go(2) image() aim(0, 2, 1) go(9) restore() go(1) was(0, 2) = 0 restore() was(0, 2) ! -3 was(0, 1) = 0 aim(0, 2, 1) go(1) was(0, 2) = 100");
+  }
+
+  /** What comes to a number that was another's ahead of RESTORE has nothing of that one. */
+  private static void numbersUsedAgain() {
+    String plain = "cell(2, 0, 99999) cell(1, 0, 99999) ";
+    String pressed = plain + "image() way(0, 1, 130) group(0, 100, 53) aim(0, 0, 1) go(3) sign(0, 3) go(1) about(0, 6) = 49 about(0, 8) = 1 body(0, 11) = 25 restore() ";
+    runs.run("41 a WAY by a number that was another's", pressed + "way(1, 0, 5020) about(0, 0) = 1 about(0, 1) = 0 about(0, 2) = 50 about(0, 3) = 20 about(0, 4) = 0 about(0, 5) = 0 about(0, 6) = 0 about(0, 7) = 0 about(0, 8) = 0");
+    runs.run("41 a GROUP by a number that was another's", pressed + "group(1, 7, 0) body(0, 1) = 1 body(0, 2) = -4 body(0, 3) = 0 body(0, 4) = 7 body(0, 6) = 0 body(0, 7) = 0 body(0, 8) = 0 body(0, 11) = 0 unaim(0) = 0 count(7) = 0");
+    runs.run("41 a BUS by a number that was a GROUP's", pressed + "comes(2, 1) body(0, 0) = 2 body(0, 1) = 1 body(0, 2) = -4 body(0, 3) = 0 body(0, 4) = 0 body(0, 6) = -4 body(0, 7) = -4 body(0, 8) = 0 body(0, 11) = 0 keep(0, 1, 0) weight(0) = 160");
+    runs.run("41 a GROUP by the number of one that FAINTED, was CARRIED, has SUN", "cell(0, 0, 0) image() group(0, 100, 0) comes(5, 0) go(55) carry(1, 0) = 1 restore() group(0, 9, 0) body(0, 8) = 0 body(0, 12) = 0 body(0, 13) = 0 count(8) = 0 count(9) = 0");
+    runs.run("41 a GROUP by the number of one that STOOD", plain + "image() group(1, 9, 0) pass(800) body(0, 9) = 80 restore() group(1, 9, 0) body(0, 9) = 0");
+    runs.run("41 a GROUP by the number of one that has THROWN", plain + "image() group(0, 9, 0) pass(400) body(0, 10) = 7 restore() group(0, 9, 0) body(0, 10) = 0 pass(400) body(0, 10) = 7");
+    runs.run("41 a GROUP by a STRAY's number", plain + "image() stray(0, 5, 110, -1) restore() group(1, 9, 20) = 0 body(0, 6) = 2 body(0, 7) = 0 body(0, 1) = 1 go(1) was(0, 0) = 1");
+  }
+
   private static void counts() {
     runs.run("42 what -1", ONE_WAY + "count(-1) ! -1");
     runs.run("42 what 13", ONE_WAY + "count(12) = 0 count(13) ! -1");
@@ -105,6 +133,7 @@ public final class ImageEdgesTest {
     runs.run("42 1 WAYS", TWO + "count(1) = 0 way(0, 1, 101) count(1) = 1 way(0, 1, 101) * 23 count(1) = 24");
     runs.run("42 4 NOW", "count(4) = 0 go(1) count(4) = 1 pass(4319) count(4) = 4320");
     runs.run("42 5 TEXTS", "count(5) = 0 write(7, \"h=0\") text(7) count(5) = 1 text(7) * 19 count(5) = 20 force(0, 3) count(5) = 20");
+    runs.run("42 10 with STRAYS at both ends of all BODIES", TWO + "stray(0, 0, 0, -1) comes(2, 0) * 38 stray(0, 0, 0, -1) = 39 count(10) = 2");
     runs.run("42 11 cups of WATER of all CELLS", "cell(0, 0, 99999) * 16 count(11) = 1599984 group(0, 9, 0) go(1) count(11) = 1599975");
   }
 

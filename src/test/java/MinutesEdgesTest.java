@@ -70,6 +70,7 @@ public final class MinutesEdgesTest {
     runs.run("a CELL in common may be either of either", THREE + "way(1, 0, 130) way(1, 2, 130) group(0, 100, 0) aim(0, 0, 1) group(2, 30, 0) aim(1, 0, 1) go(3) about(1, 6) = 20");
     runs.run("both CELLS in common", TWO + "way(0, 1, 130) way(1, 0, 130) sign(0, 1) sign(1, 1) group(0, 100, 0) aim(0, 0, 1) group(1, 30, 0) aim(1, 0, 0) go(3) about(1, 6) = 20");
     runs.run("no CELL in common", "cell(0, 0, 0) * 4 way(0, 1, 130) way(2, 3, 130) group(0, 100, 0) aim(0, 0, 1) group(2, 30, 0) aim(1, 0, 3) go(3) about(0, 6) = 52 about(1, 6) = 0");
+    runs.run("beside all 24 WAYS", TWO + "way(0, 1, 130) * 23 way(0, 1, 130) group(0, 40, 0) aim(0, 0, 1) group(1, 100, 0) sign(0, 1) aim(1, 1, 0) go(4) = 100 about(1, 6) = 52 about(0, 6) = 20 about(23, 6) = 0");
     runs.run("it goes on from the one beside to the one beside that", "cell(0, 0, 0) * 4 way(0, 1, 130) way(2, 1, 130) way(3, 2, 130)",
         "group(0, 100, 0) aim(0, 0, 1) group(2, 40, 0) aim(1, 0, 1) group(3, 30, 0) aim(2, 0, 2) go(3) about(1, 6) = 20 about(2, 6) = 0 go(1) about(1, 6) = 26 about(2, 6) = 10");
     runs.run("through CELLS, whatever SIGNS let", beside.replace("#", "30") + "go(1) sign(0, 3) sign(1, 3) go(2) about(1, 6) = 20");
@@ -78,6 +79,8 @@ public final class MinutesEdgesTest {
   private static void shuts() {
     String post = TWO + "way(0, 1, 105) group(0, 5, 0) post(0) ";
     runs.run("SHUT by SIGN 3", TWO + "way(0, 1, 105) sign(0, 3) go(1) about(0, 8) = 1");
+    runs.run("SHUT back to CELL 0 by a POST's TEXT", TWO + "way(0, 1, 105) group(1, 5, 0) post(0) tell(\"0=0\") force(8, 0) aim(0, 0, 0) go(9) about(0, 8) = 1 body(0, 1) = 1");
+    runs.run("SHUT by the last of 8 POSTS", TWO + "way(0, 1, 105) group(0, 5, 0) post(0) * 8 tell(\"0=0\") force(15, 0) aim(0, 0, 1) go(9) about(0, 8) = 1 body(0, 1) = 0");
     runs.run("SHUT by a POST's TEXT", post + "tell(\"0=0\") force(8, 0) aim(0, 0, 1) go(9) about(0, 8) = 1 body(0, 1) = 0");
     runs.run("not SHUT by a TEXT that doesn't hold", post + "tell(\"0=1\") force(8, 0) aim(0, 0, 1) go(1) about(0, 8) = 0 body(0, 2) = 0");
     runs.run("a POST shuts its WAY alone", post + "way(0, 1, 105) tell(\"0=0\") force(8, 0) aim(0, 0, 1) go(1) about(0, 8) = 1 about(1, 8) = 0 body(0, 2) = 1");
@@ -90,6 +93,8 @@ public final class MinutesEdgesTest {
     runs.run("PUSH 19: nobody FELL", NARROW + "group(0, 79, 0) aim(0, 0, 1) go(2) about(0, 6) = 19 body(0, 11) = 0 body(0, 4) = 79");
     runs.run("PUSH 20: HEADS times PUSH by 500", NARROW + "group(0, 80, 0) aim(0, 0, 1) go(2) about(0, 6) = 20 body(0, 11) = 3 body(0, 4) = 77 count(7) = 3 count(6) = 77");
     runs.run("of each GROUP by itself, cut", NARROW + "group(0, 60, 0) group(0, 25, 0) aim(0, 0, 1) aim(1, 0, 1) go(2) about(0, 6) = 25 body(0, 11) = 3 body(1, 11) = 1 count(7) = 4");
+    runs.run("just as many HEADS as make whole ones fall", NARROW + "group(0, 75, 0) group(0, 25, 0) aim(0, 0, 1) aim(1, 0, 1) go(2) about(0, 6) = 40 body(0, 11) = 6 body(1, 11) = 2");
+    runs.run("just fewer than make one more fall", NARROW + "group(0, 70, 0) group(0, 27, 0) aim(0, 0, 1) aim(1, 0, 1) go(2) about(0, 6) = 37 body(0, 11) = 5 body(1, 11) = 1");
     runs.run("too few HEADS for one to fall", NARROW + "group(0, 60, 0) group(0, 19, 0) group(0, 1, 0) aim(0, 0, 1) aim(1, 0, 1) aim(2, 0, 1) go(2) about(0, 6) = 20 body(0, 11) = 2 body(1, 11) = 0 body(2, 11) = 0");
     runs.run("by PUSH, whatever PRESS is", THREE + "way(0, 1, 130) way(2, 1, 130) group(0, 100, 0) aim(0, 0, 1) group(2, 30, 0) aim(1, 0, 1) go(2) body(1, 11) = 0 go(1) about(1, 6) = 20 body(1, 11) = 1");
     runs.run("those in CELLS do not fall", NARROW + "group(0, 100, 0) group(0, 100, 0) group(1, 100, 0) aim(0, 0, 1) go(4) body(1, 11) = 0 body(2, 11) = 0");
@@ -140,6 +145,9 @@ public final class MinutesEdgesTest {
     runs.run("SIGN 2 leads on from b", TWO + "way(0, 1, 105) sign(0, 2) group(1, 5, 0) aim(0, 0, 0) go(1) body(0, 2) = 0");
     runs.run("SIGN 2 does not lead on from a", TWO + "way(0, 1, 105) sign(0, 2) group(0, 5, 0) aim(0, 0, 1) go(9) body(0, 1) = 0");
     runs.run("SIGN 3 does not lead on", TWO + "way(0, 1, 105) sign(0, 3) group(0, 5, 0) aim(0, 0, 1) go(9) body(0, 1) = 0");
+    runs.run("none of all 24 leads on", THREE + "way(0, 1, 105) * 24 group(0, 5, 0) aim(0, 0, 2) go(9) body(0, 1) = 0");
+    runs.run("none of all 24 but one that is SHUT", TWO + "way(0, 1, 105) way(0, 1, 106) * 23 group(0, 5, 0) aim(0, 0, 1) post(0) tell(\"0=0\") = 0 force(8, 0) go(9) body(0, 1) = 0");
+    runs.run("the last of all 24 leads on", THREE + "way(0, 1, 105) * 23 way(0, 2, 105) group(0, 5, 0) aim(0, 0, 2) go(9) body(0, 1) = 2 was(0, 0) = 123");
     runs.run("there is none: it waits", THREE + "way(0, 1, 105) group(0, 5, 0) aim(0, 0, 2) go(9) body(0, 1) = 0");
     runs.run("of a way of least LENGTH", THREE + "way(0, 2, 111) way(0, 1, 105) way(1, 2, 105) group(0, 5, 0) aim(0, 0, 2) go(1) body(0, 2) = 1");
     runs.run("the first by numbers of several", THREE + "way(0, 2, 110) way(0, 1, 105) way(1, 2, 105) group(0, 5, 0) aim(0, 0, 2) go(1) body(0, 2) = 0");

@@ -4,6 +4,8 @@ import java.util.List;
 /** Plays random plains beside a slow model written from the document alone, and compares what they answer. */
 public final class ModelTest {
   private static final Check check = new Check("ModelTest");
+  /** Each answer is of one call; what is told at first, and what a turn may ask, stays below 512 with them. */
+  private static final int MOST_ANSWERS = 320;
 
   /** One thing of each, as the document names them. */
   private static final class Group {
@@ -211,15 +213,16 @@ public final class ModelTest {
   }
 
   public static void main(String[] args) {
-    for (int game = 0; game < 120; game++) play(new Dice(100 + game), game);
+    for (int game = 0; game < 1500; game++) play(new Dice(100 + game), game);
     check.end();
   }
 
   private static void play(Dice dice, int game) {
     TentPlain x = new TentPlain();
+    int from = check.asked();
     Model m = build(x, dice);
     Model kept = null;
-    for (int turn = 0; turn < 60; turn++) {
+    for (int turn = 0; turn < 60 && check.asked() - from < MOST_ANSWERS; turn++) {
       int what = dice.below(12);
       if (what < 4 && m.now < 4200) {
         int n = dice.oneIn(3) ? dice.from(1, 120) : dice.from(1, 10);
@@ -249,6 +252,11 @@ public final class ModelTest {
       }
       compare(x, m, dice, game);
     }
+  }
+
+  /** Of many GROUPS and WAYS only some are asked each time, so that a game has many turns. */
+  private static boolean isAsked(Dice dice, int of) {
+    return of <= 2 || dice.below(of) < 2;
   }
 
   private static Model build(TentPlain x, Dice dice) {
@@ -366,12 +374,14 @@ public final class ModelTest {
     for (int i = 0; i < m.ways.size(); i++) {
       Way w = m.ways.get(i);
       int[] due = {w.a, w.b, w.width, w.length, w.sign, w.press, w.push, m.on(i), w.shut};
-      for (int what = 0; what < 9; what++) check.due(at + "about " + i + " " + what, x.about(i, what), due[what]);
+      if (!isAsked(dice, m.ways.size())) continue;
+      for (int what = 4; what < 9; what++) check.due(at + "about " + i + " " + what, x.about(i, what), due[what]);
     }
     int water = 0;
     for (int[] c : m.cells) water += c[2];
     check.due(at + "water", x.count(11), water);
     for (Group g : m.groups) {
+      if (!isAsked(dice, m.groups.size())) continue;
       boolean on = g.way >= 0;
       int[] due = {on ? -4 : g.cell, on ? g.way : -4, on ? g.left : 0, g.heads};
       for (int what = 0; what < 4; what++) check.due(at + "body " + g.body, x.body(g.body, 1 + what), due[what]);

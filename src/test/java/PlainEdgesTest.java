@@ -189,6 +189,7 @@ public final class PlainEdgesTest {
         "far(2, 0) = 11 sign(1, 0) far(0, 2) = 11");
     runs.run("8 what POSTS shut does not count", ONE_WAY, "post(0) tell(\"0=0\") = 0 force(8, 0) go(1) about(0, 8) = 1 far(0, 1) = 5");
     runs.run("8 PRESS does not count", TWO, "way(0, 1, 105) group(0, 100, 0) aim(0, 0, 1) go(3) far(0, 1) = 5");
+    runs.run("8 a CELL and a WAY that came since", ONE_WAY, "far(0, 1) = 5 cell(0, 0, 0) = 2 far(2, 0) = -4 far(0, 2) = -4 far(2, 2) = 0 way(2, 0, 104) far(1, 2) = 9");
     runs.run("8 all CELLS in a line", ALL_CELLS, "way(0, 1, 130) way(1, 2, 130) way(2, 3, 130) way(3, 4, 130) way(4, 5, 130)",
         "way(5, 6, 130) way(6, 7, 130) way(7, 8, 130) way(8, 9, 130) way(9, 10, 130) way(10, 11, 130) way(11, 12, 130)",
         "way(12, 13, 130) way(13, 14, 130) way(14, 15, 130) far(0, 15) = 450 far(15, 0) = 450 sign(7, 1) far(15, 0) = -4 far(0, 15) = 450");

@@ -171,6 +171,7 @@ final class Runs {
     for (Call c : asked) {
       String due = ask(without, c);
       String answer = ask(with, c);
+      if (due.startsWith("throws.") && !c.name.equals("element")) tell(sentence, c + " " + due);
       if (!due.equals(answer)) {
         tell(sentence, "behind what was refused " + c + " answers " + answer + ", ahead of it " + due);
         return;

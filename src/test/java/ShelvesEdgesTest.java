@@ -190,6 +190,8 @@ public final class ShelvesEdgesTest {
     runs.run("47 nothing in both", "copy(0, 0, 1, 0, 1) ! -11 copy(0, 0, 0, 0, 0) ! -11");
     runs.run("47 a BODY in SHELF d", ALL_KINDS + two + "keep(2, 1, 0) copy(2, 0, 1, 0, 1) ! -12");
     runs.run("47 a BODY in SHELF e", ALL_KINDS + two + "keep(2, 1, 0) copy(0, 0, 2, 0, 1) ! -12");
+    runs.run("47 a BODY where a ROW was", ALL_KINDS + two + "row(2, 2, 5) keep(2, 1, 0) copy(0, 0, 2, 0, 1) ! -12 copy(2, 0, 0, 0, 1) ! -12");
+    runs.run("47 a BODY and a ROW of bytes", ALL_KINDS + "bytes(0, 1) keep(2, 1, 0) copy(0, 0, 2, 0, 0) ! -12 copy(2, 0, 0, 0, 0) ! -12 copy(0, 0, 2, 0, 1) ! -12");
     runs.run("47 a BODY in both", ALL_KINDS + "keep(2, 1, 0) copy(2, 0, 2, 0, 0) ! -12");
     runs.run("47 no ROWS of one SORT", two + "row(2, 1, 5) row(3, 0, 5) copy(0, 0, 2, 0, 1) ! -12 copy(2, 0, 0, 0, 1) ! -12 copy(2, 0, 3, 0, 1) ! -12 copy(3, 0, 0, 0, 1) ! -12");
     runs.run("47 n -1", two + "copy(0, 0, 1, 0, -1) ! -13");

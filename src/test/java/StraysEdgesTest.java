@@ -71,6 +71,7 @@ public final class StraysEdgesTest {
     runs.runEach("26 STRAY far off", FAR_OFF, ALL_KINDS + "whose(#) ! -1");
     runs.runEach("26 no STRAY, but another BODY", NO_STRAYS, ALL_KINDS + "whose(#) ! -1");
     runs.run("26 it is FOUND", FOUND + "whose(1) ! -3");
+    runs.run("26 it is FOUND, and a GROUP has no CELL either", FOUND + "aim(0, 0, 1) go(1) body(0, 1) = -4 whose(1) ! -3");
   }
 
   private static void sure() {
@@ -88,6 +89,7 @@ public final class StraysEdgesTest {
     runs.runEach("27 STRAY far off", FAR_OFF, ALL_KINDS + "sure(#) ! -1");
     runs.runEach("27 no STRAY, but another BODY", NO_STRAYS, ALL_KINDS + "sure(#) ! -1");
     runs.run("27 it is FOUND", FOUND + "sure(1) ! -3");
+    runs.run("27 it is FOUND, and a GROUP has no CELL either", FOUND + "aim(0, 0, 1) go(1) body(0, 1) = -4 sure(1) ! -3");
     runs.run("27 FOUND ahead of none", ALL_KINDS + "group(1, 9, 10) found(1, 0) sure(1) ! -3");
   }
 
@@ -133,6 +135,7 @@ public final class StraysEdgesTest {
     runs.run("29 it CAN'T BE of that any more", ONE_WAY + "group(0, 5, 20) aim(0, 5, 1) stray(0, 2, 7, -1) go(120) go(5) found(1, 0) ! -3");
     runs.run("29 it is known to be of another", TWO + "group(0, 5, 20) group(0, 5, 20) stray(0, 2, 7, 1) found(2, 0) ! -3 found(2, 1) = 6");
     runs.run("29 it is known to be of that, but CAN'T BE", TWO + "group(1, 5, 20) stray(0, 2, 7, 0) found(1, 0) ! -3");
+    runs.run("29 it is FOUND, and the GROUP has no CELL either", FOUND + "aim(0, 0, 1) go(1) body(0, 1) = -4 found(1, 0) ! -3 body(0, 4) = 10");
     runs.run("29 it is FOUND", FOUND + "found(1, 0) ! -3 body(0, 4) = 10");
     runs.run("29 it is FOUND by another", FOUND + "group(0, 5, 10) = 6 found(1, 6) ! -3");
   }
@@ -185,6 +188,7 @@ public final class StraysEdgesTest {
     runs.run("31 the least of several", COUNTED + "ints(0, 30, 1, 21) wrong(0) = 1");
     runs.run("31 below 0", COUNTED + "ints(0, 30, -1, 20) wrong(0) = 1");
     runs.run("31 HEADS now, not PRESS", COUNTED + "about(0, 5) = 0 ints(0, 30, 0, 20) wrong(0) = -4 sign(0, 3) go(1) about(0, 5) = 30 wrong(0) = -4");
+    runs.run("31 what a longer ROW held does not count", COUNTED + "ints(0, 30, 0, 20, 9, 9) ints(0, 30, 0, 20) wrong(0) = -4 closes(0, 0) = 1");
     runs.run("31 no WAYS, an empty ROW", "row(0, 2, 0) wrong(0) = -4");
     runs.run("31 no WAYS, one too many", "row(0, 2, 1) wrong(0) ! -13");
     runs.run("31 one too few", COUNTED + "ints(0, 30, 0) wrong(0) ! -13");

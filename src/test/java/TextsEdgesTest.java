@@ -155,6 +155,12 @@ public final class TextsEdgesTest {
     holds(">", "2>1", 1);
     holds("> not of the same", "2>2", 0);
     holds("=", "2=2", 1);
+    holds("! of <", "!1<2", 0);
+    holds("! of >", "!2>1", 0);
+    holds("< and =", "1<2&1=1", 1);
+    holds("> and =", "2>1&2=2", 1);
+    holds("< or >", "1<2|1>2", 1);
+    holds("< and >", "1<2&2>1", 1);
     holds("= of less", "1=2", 0);
     holds("= of more", "2=1", 0);
     holds("from the left", "9-5-3=1", 1);

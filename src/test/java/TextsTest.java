@@ -16,49 +16,47 @@ public final class TextsTest {
     check.end();
   }
 
-  private static int faultOf(TentPlain x, String text) {
+  private static int faultOf(String text) {
+    TentPlain x = new TentPlain();
     Check.write(x, 0, text);
     return x.fault(0);
   }
 
   private static void faults() {
-    TentPlain x = new TentPlain();
     String[] good = {"h<1", "0=0", "9999>x", "m+1-2<h", "!h=1", "!!h=1", "(h=1)", "((((((((h=1))))))))", "h=1|h=2&h=3",
         "!(h=1|d>2)&(p<q)", "(h=1)&((((((((h=1))))))))", "m+h+d+p+q+n+s+l+u+t+w+x=0"};
-    for (String text : good) check.due(text, faultOf(x, text), -4);
+    for (String text : good) check.due(text, faultOf(text), -4);
     String[] bad = {"", "h", "h<", "h<1&", "h<1|", "!", "(", "(h<1", "h+", "h<1+"};
-    for (String text : bad) check.due(text + " ends too early", faultOf(x, text), text.length());
-    check.due("01", faultOf(x, "h<01"), 3);
-    check.due("00", faultOf(x, "00<1"), 1);
-    check.due("five digits", faultOf(x, "h<12345"), 6);
-    check.due("five digits ahead", faultOf(x, "10000<h"), 4);
-    check.due("blank", faultOf(x, "h <1"), 1);
-    check.due("no field", faultOf(x, "a<1"), 0);
-    check.due("two fields", faultOf(x, "hm<1"), 1);
-    check.due("digit behind a field", faultOf(x, "h1<1"), 1);
-    check.due("field behind a digit", faultOf(x, "1h<1"), 1);
-    check.due("sum in brackets", faultOf(x, "(h+1)<2"), 4);
-    check.due("a bracket in a sum", faultOf(x, "h<(1)"), 2);
-    check.due("no number ahead", faultOf(x, "-1<h"), 0);
-    check.due("two signs", faultOf(x, "h<=1"), 2);
-    check.due("compared twice", faultOf(x, "h<1<2"), 3);
-    check.due("not in a sum", faultOf(x, "h<!1"), 2);
-    check.due("closed too often", faultOf(x, "h<1)"), 3);
-    check.due("closed too early", faultOf(x, "(h)"), 2);
-    check.due("empty brackets", faultOf(x, "()"), 1);
-    check.due("nine deep", faultOf(x, "(((((((((h=1)))))))))"), 8);
-    check.due("nine deep behind", faultOf(x, "h=1&(((((((((h=1)))))))))"), 12);
-    check.due("behind brackets", faultOf(x, "(h=1)h"), 5);
-    check.due("not behind brackets", faultOf(x, "(h=1)!h=1"), 5);
-    check.due("and twice", faultOf(x, "h=1&&h=1"), 4);
-    check.due("capital", faultOf(x, "H=1"), 0);
+    for (String text : bad) check.due(text + " ends too early", faultOf(text), text.length());
+    check.due("01", faultOf("h<01"), 3);
+    check.due("00", faultOf("00<1"), 1);
+    check.due("five digits", faultOf("h<12345"), 6);
+    check.due("five digits ahead", faultOf("10000<h"), 4);
+    check.due("blank", faultOf("h <1"), 1);
+    check.due("no field", faultOf("a<1"), 0);
+    check.due("two fields", faultOf("hm<1"), 1);
+    check.due("digit behind a field", faultOf("h1<1"), 1);
+    check.due("field behind a digit", faultOf("1h<1"), 1);
+    check.due("sum in brackets", faultOf("(h+1)<2"), 4);
+    check.due("a bracket in a sum", faultOf("h<(1)"), 2);
+    check.due("no number ahead", faultOf("-1<h"), 0);
+    check.due("two signs", faultOf("h<=1"), 2);
+    check.due("compared twice", faultOf("h<1<2"), 3);
+    check.due("not in a sum", faultOf("h<!1"), 2);
+    check.due("closed too often", faultOf("h<1)"), 3);
+    check.due("closed too early", faultOf("(h)"), 2);
+    check.due("empty brackets", faultOf("()"), 1);
+    check.due("nine deep", faultOf("(((((((((h=1)))))))))"), 8);
+    check.due("nine deep behind", faultOf("h=1&(((((((((h=1)))))))))"), 12);
+    check.due("behind brackets", faultOf("(h=1)h"), 5);
+    check.due("not behind brackets", faultOf("(h=1)!h=1"), 5);
+    check.due("and twice", faultOf("h=1&&h=1"), 4);
+    check.due("capital", faultOf("H=1"), 0);
     String long80 = "!!!!!!!!!!!!!!!!!!!!!!!!!!!!!!!!!!!!!!!!!!!!!!!!!!!!!!!!!!!!!!!!!!!!!!!!!!!!!h=1";
     check.due("80 signs", long80.length(), 80);
-    check.due("80 signs", faultOf(x, long80), -4);
-    x.row(0, 0, 80);
-    for (int i = 0; i < 80; i++) x.put(0, i, '!');
-    check.due("80 times not", x.fault(0), 80);
-    x.row(0, 0, 4);
+    check.due("80 signs", faultOf(long80), -4);
+    check.due("80 times not", faultOf("!".repeat(80)), 80);
+    TentPlain x = new TentPlain();
     for (int v : new int[] {-1, -128, 0, 127, 9}) {
       Check.write(x, 0, "h=1&");
       x.put(0, 3, v);
@@ -127,8 +125,7 @@ public final class TextsTest {
 
   private static void faultsOfAny() {
     Dice dice = new Dice(1);
-    TentPlain x = new TentPlain();
-    for (int i = 0; i < 20000; i++) {
+    for (int i = 0; i < 10000; i++) {
       String text = anyText(dice, dice.below(10));
       if (text.length() > 80) text = text.substring(0, 80);
       int changes = dice.below(3);
@@ -137,7 +134,7 @@ public final class TextsTest {
         text = text.substring(0, at) + SIGNS.charAt(dice.below(SIGNS.length())) + text.substring(at + dice.below(2));
       }
       if (text.length() > 80) text = text.substring(0, 80);
-      check.due("fault of " + text, faultOf(x, text), faultByStates(text));
+      check.due("fault of " + text, faultOf(text), faultByStates(text));
     }
   }
 
@@ -205,6 +202,12 @@ public final class TextsTest {
   }
 
   private static void fields() {
+    fieldsOfTime(onSecondDay());
+    fieldsOfGroups(onSecondDay());
+    fieldsOfAims(onSecondDay());
+  }
+
+  private static TentPlain onSecondDay() {
     TentPlain x = new TentPlain();
     x.cell(1, 0, 0);
     x.cell(2, 0, 0);
@@ -217,6 +220,10 @@ public final class TextsTest {
     Check.go(x, 1440);
     x.heat(1, 55);
     x.go(62);
+    return x;
+  }
+
+  private static void fieldsOfTime(TentPlain x) {
     field(x, 'm', -1, -1, 62);
     field(x, 'h', -1, -1, 1);
     field(x, 'd', -1, -1, 1);
@@ -225,6 +232,9 @@ public final class TextsTest {
     field(x, 'q', 0, -1, 10);
     field(x, 'p', -1, 0, 0);
     field(x, 'q', -1, 0, 0);
+  }
+
+  private static void fieldsOfGroups(TentPlain x) {
     field(x, 'n', -1, 0, 70);
     field(x, 'n', 0, -1, 0);
     field(x, 's', -1, 0, 3);
@@ -237,6 +247,9 @@ public final class TextsTest {
     field(x, 'u', 0, -1, 0);
     field(x, 't', -1, 0, 360);
     field(x, 'w', -1, 0, 0);
+  }
+
+  private static void fieldsOfAims(TentPlain x) {
     x.unaim(0);
     field(x, 'l', -1, 0, 0);
     x.aim(1, 1501, 0);
@@ -320,16 +333,19 @@ public final class TextsTest {
 
   private static void meaningsOfAny() {
     Dice dice = new Dice(2);
-    TentPlain x = new TentPlain();
-    x.go(7);
-    x.image();
+    TentPlain x = null;
+    int told = 0;
     for (int i = 0; i < 20000; i++) {
+      if (told % 5 == 0) {
+        x = new TentPlain();
+        x.go(7);
+      }
       String text = anyText(dice, dice.below(9));
       if (text.length() > 80) continue;
       int number = Check.tell(x, text);
       check.due("is a text: " + text, number >= 0 ? 1 : 0, 1);
       check.due("holds " + text, x.holds(number, -1, -1), oracle(text) ? 1 : 0);
-      if (number == 19) x.restore();
+      told++;
     }
   }
 

@@ -38,6 +38,7 @@ public final class WavesEdgesTest {
     runs.run("33 GROUPS elsewhere are not of the 6", STATION + "group(1, 5, 0) group(0, 5, 0) * 6 comes(3, 0) wave(0, 1) = 30 rides(6, 1) = 70");
     runs.run("33 GROUPS of another STATION", STATION + "cell(3, 0, 0) group(0, 5, 0) group(2, 7, 0) comes(2, 0) wave(0, 1) = 5 wave(2, 1) = 0 rides(1, 1) = -4");
     runs.run("33 GROUPS on a WAY are not there", STATION + "way(0, 1, 130) group(0, 5, 0) group(0, 7, 0) aim(0, 0, 1) go(1) comes(2, 0) wave(0, 1) = 7 rides(0, 1) ! -3");
+    runs.run("33 a GROUP of 1 HEAD", STATION + "group(0, 1, 0) comes(2, 0) wave(0, 1) = 1 rides(0, 1) = 10");
     runs.run("33 HEADS as they are now", STATION + "group(0, 51, 0) comes(2, 0) wave(0, 1) = 0 heat(0, 60) go(26) body(0, 4) = 49 wave(0, 1) = 49");
     runs.run("33 STRAYS do not ride", STATION + "group(0, 49, 0) stray(0, 0, 9, 0) comes(2, 0) wave(0, 1) = 49 found(1, 0) = 50 wave(0, 1) = 50");
     runs.run("33 it is told, nobody goes", STATION + "group(0, 5, 0) comes(2, 0) wave(0, 1) = 5 body(0, 1) = 0 body(0, 4) = 5 wave(0, 1) = 5");
@@ -231,6 +232,10 @@ public final class WavesEdgesTest {
     runs.run("38 in mind: nothing of it stays", CROSSING + "worst(0, 3, 60) = 45 count(4) = 0 about(0, 4) = 0 about(1, 5) = 0 body(0, 1) = 0 count(6) = 90 record(0, 0) ! -3 was(0, 0) ! -3 worst(-1, 0, 20) = 90 go(20) = 90");
     runs.run("38 in mind: WATER and rites, too", "cell(1, 0, 500) group(0, 9, 0) pass(700) worst(-1, 0, 60) = 0 body(0, 9) = 0 count(11) = 284 go(60) body(0, 9) = 40");
     runs.run("38 POSTS shut in mind, too", TWO + "way(0, 1, 105) group(0, 90, 0) aim(0, 0, 1) post(0) tell(\"m<5\") = 0 force(8, 0) worst(-1, 0, 6) = 0 worst(-1, 0, 7) = 90");
+    runs.run("38 SHADE in mind, too", "cell(0, 9, 0) cell(0, 9, 0) way(0, 1, 130) group(0, 100, 0) aim(0, 100, 1) worst(-1, 0, 110) = 100 heat(1, 60) worst(-1, 0, 110) = 97");
+    runs.run("38 WATER in mind, too", "cell(0, 0, 9999) cell(0, 9, 0) way(0, 1, 130) group(0, 100, 0) aim(0, 100, 1) worst(-1, 0, 110) = 100 worst(-1, 0, 110) = 100");
+    runs.run("38 AIMS and HEADS on WAYS in mind, too", TWO + "way(0, 1, 105) way(0, 1, 130) group(0, 30, 0) group(0, 50, 0) aim(0, 0, 1) go(2) aim(1, 3, 1) worst(-1, 0, 1) = 30 worst(-1, 0, 3) = 80");
+    runs.run("38 PUSH in mind, too", TWO + "way(0, 1, 130) group(0, 90, 0) aim(0, 0, 1) group(0, 30, 0) aim(1, 4, 1) go(3) about(0, 6) = 40 worst(-1, 0, 5) = 99 go(5) = 99");
     runs.run("38 THE IMAGE stays", CROSSING + "image() heat(0, 5) worst(0, 3, 20) = 45 restore() = 0 heat(0, 5) = 30");
     runs.run("38 to the last MINUTE", CROSSING + "pass(4200) worst(-1, 0, 120) = 0 worst(0, 3, 120) = 0");
   }

@@ -55,6 +55,9 @@ public final class ImageEdgesTest {
     runs.run("41 FELL", TWO + "way(0, 1, 130) group(0, 100, 0) aim(0, 0, 1) go(2) image() go(9) restore() body(0, 11) = 8 count(7) = 8");
     runs.run("41 STOOD", "cell(1, 0, 99999) group(0, 9, 0) pass(721) image() go(60) restore() body(0, 9) = 1");
     runs.run("41 THROWN", "cell(2, 0, 99999) group(0, 9, 0) go(61) image() pass(240) body(0, 10) = 6 restore() body(0, 10) = 2");
+    runs.run("41 THROWN on a later day", "cell(2, 0, 99999) group(0, 9, 0) pass(1441) body(0, 10) = 8 image() go(60) body(0, 10) = 9 restore() body(0, 10) = 8 pass(600) body(0, 10) = 14");
+    runs.run("41 from when on a GROUP was there", ONE_WAY + "go(5) group(0, 9, 0) image() go(3) restore() go(1) was(0, 4) ! -3 was(0, 5) = 0");
+    runs.run("41 every BODY", TWO + "group(0, 100, 0) * 40 image() go(60) count(8) = 120 body(39, 12) = 3 restore() count(8) = 0 body(39, 4) = 100 body(39, 8) = 0 body(39, 12) = 0 body(16, 4) = 100 body(2, 8) = 0");
     runs.run("41 how often it has THROWN on this day", "cell(2, 0, 99999) group(0, 9, 0) image() pass(361) body(0, 10) = 7 restore() pass(400) body(0, 10) = 7");
     runs.run("41 how often it had THROWN on that day", "cell(2, 0, 99999) group(0, 9, 0) pass(361) body(0, 10) = 7 image() pass(1440) restore() pass(900) body(0, 10) = 7");
     runs.run("41 CARRIED", TWO + "group(0, 100, 0) comes(5, 0) go(51) carry(1, 0) = 1 image() carry(1, 0) = 2 restore() body(0, 13) = 1 count(9) = 1 carry(1, 0) = 2");
@@ -122,6 +125,7 @@ public final class ImageEdgesTest {
     runs.run("41 a GROUP by the number of one that FAINTED, was CARRIED, has SUN", "cell(0, 0, 0) image() group(0, 100, 0) comes(5, 0) go(55) carry(1, 0) = 1 restore() group(0, 9, 0) body(0, 8) = 0 body(0, 12) = 0 body(0, 13) = 0 count(8) = 0 count(9) = 0");
     runs.run("41 a GROUP by the number of one that STOOD", plain + "image() group(1, 9, 0) pass(800) body(0, 9) = 80 restore() group(1, 9, 0) body(0, 9) = 0");
     runs.run("41 a GROUP by the number of one that has THROWN", plain + "image() group(0, 9, 0) pass(400) body(0, 10) = 7 restore() group(0, 9, 0) body(0, 10) = 0 pass(400) body(0, 10) = 7");
+    runs.run("41 a GROUP by the number of one that has THROWN on this day", plain + "go(1) image() group(0, 9, 0) pass(500) body(0, 10) = 7 restore() group(0, 9, 0) pass(500) body(0, 10) = 7");
     runs.run("41 a GROUP by a STRAY's number", plain + "image() stray(0, 5, 110, -1) restore() group(1, 9, 20) = 0 body(0, 6) = 2 body(0, 7) = 0 body(0, 1) = 1 go(1) was(0, 0) = 1");
   }
 
@@ -143,6 +147,8 @@ public final class ImageEdgesTest {
     runs.run("42 3 GROUPS", all + "count(3) = 2");
     runs.run("42 6 HEADS of GROUPS, none of STRAYS", all + "count(6) = 16 found(1, 0) = 10 count(6) = 17");
     runs.run("42 7 all that FELL", TWO + "way(0, 1, 130) way(0, 1, 130) post(0) group(0, 100, 0) aim(1, 0, 1) go(1) sign(0, 3) group(0, 100, 0) aim(2, 0, 1) go(2) body(1, 11) = 17 body(2, 11) = 8 count(7) = 25");
+    runs.run("42 7 all that FELL, with other BODIES", TWO + "way(0, 1, 130) group(0, 100, 0) comes(2, 0) stray(0, 0, 1, -1) aim(0, 0, 1) go(2) count(7) = 8 record(1, 3) = 8");
+    runs.run("42 6, 8, 9 with other BODIES", TWO + "group(0, 100, 0) comes(5, 0) comes(2, 0) stray(0, 0, 1, -1) go(51) carry(1, 0) = 1 count(6) = 97 count(8) = 3 count(9) = 1 record(50, 2) = 97 record(50, 4) = 3");
     runs.run("42 8 all that FAINTED", TWO + "group(0, 100, 0) group(1, 49, 0) go(51) count(8) = 4");
     runs.run("42 9 all that were CARRIED", TWO + "group(0, 100, 0) group(0, 49, 0) comes(5, 0) go(51) carry(2, 0) carry(2, 0) carry(2, 1) count(9) = 3");
     runs.run("42 10 STRAYS not FOUND", all + "count(10) = 2 found(1, 0) = 10 count(10) = 1");

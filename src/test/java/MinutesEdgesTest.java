@@ -70,6 +70,10 @@ public final class MinutesEdgesTest {
     runs.run("a CELL in common may be either of either", THREE + "way(1, 0, 130) way(1, 2, 130) group(0, 100, 0) aim(0, 0, 1) group(2, 30, 0) aim(1, 0, 1) go(3) about(1, 6) = 20");
     runs.run("both CELLS in common", TWO + "way(0, 1, 130) way(1, 0, 130) sign(0, 1) sign(1, 1) group(0, 100, 0) aim(0, 0, 1) group(1, 30, 0) aim(1, 0, 0) go(3) about(1, 6) = 20");
     runs.run("no CELL in common", "cell(0, 0, 0) * 4 way(0, 1, 130) way(2, 3, 130) group(0, 100, 0) aim(0, 0, 1) group(2, 30, 0) aim(1, 0, 3) go(3) about(0, 6) = 52 about(1, 6) = 0");
+    runs.run("by the PUSH that the one beside it had, where that ends in this MINUTE", THREE + "way(0, 1, 102) way(2, 1, 130) group(0, 40, 0) aim(0, 0, 1) group(0, 30, 0) aim(1, 2, 1) group(2, 30, 0) aim(2, 0, 1)",
+        "go(5) about(0, 6) = 15 about(1, 6) = 5 go(1) about(0, 6) = 2 about(1, 6) = 7 go(1) about(0, 6) = 0 about(1, 6) = 1");
+    runs.run("where that has the greater number, too", THREE + "way(2, 1, 130) way(0, 1, 102) group(0, 40, 0) aim(0, 0, 1) group(0, 30, 0) aim(1, 2, 1) group(2, 30, 0) aim(2, 0, 1)",
+        "go(5) about(1, 6) = 15 about(0, 6) = 5 go(1) about(1, 6) = 2 about(0, 6) = 7 go(1) about(1, 6) = 0 about(0, 6) = 1");
     runs.run("beside all 24 WAYS", TWO + "way(0, 1, 130) * 23 way(0, 1, 130) group(0, 40, 0) aim(0, 0, 1) group(1, 100, 0) sign(0, 1) aim(1, 1, 0) go(4) = 100 about(1, 6) = 52 about(0, 6) = 20 about(23, 6) = 0");
     runs.run("it goes on from the one beside to the one beside that", "cell(0, 0, 0) * 4 way(0, 1, 130) way(2, 1, 130) way(3, 2, 130)",
         "group(0, 100, 0) aim(0, 0, 1) group(2, 40, 0) aim(1, 0, 1) group(3, 30, 0) aim(2, 0, 2) go(3) about(1, 6) = 20 about(2, 6) = 0 go(1) about(1, 6) = 26 about(2, 6) = 10");
@@ -95,6 +99,7 @@ public final class MinutesEdgesTest {
     runs.run("of each GROUP by itself, cut", NARROW + "group(0, 60, 0) group(0, 25, 0) aim(0, 0, 1) aim(1, 0, 1) go(2) about(0, 6) = 25 body(0, 11) = 3 body(1, 11) = 1 count(7) = 4");
     runs.run("just as many HEADS as make whole ones fall", NARROW + "group(0, 75, 0) group(0, 25, 0) aim(0, 0, 1) aim(1, 0, 1) go(2) about(0, 6) = 40 body(0, 11) = 6 body(1, 11) = 2");
     runs.run("just fewer than make one more fall", NARROW + "group(0, 70, 0) group(0, 27, 0) aim(0, 0, 1) aim(1, 0, 1) go(2) about(0, 6) = 37 body(0, 11) = 5 body(1, 11) = 1");
+    runs.run("without HEAT, too", NARROW + "heat(0, 0) group(0, 80, 0) aim(0, 0, 1) go(2) body(0, 8) = 0 body(0, 11) = 3");
     runs.run("too few HEADS for one to fall", NARROW + "group(0, 60, 0) group(0, 19, 0) group(0, 1, 0) aim(0, 0, 1) aim(1, 0, 1) aim(2, 0, 1) go(2) about(0, 6) = 20 body(0, 11) = 2 body(1, 11) = 0 body(2, 11) = 0");
     runs.run("by PUSH, whatever PRESS is", THREE + "way(0, 1, 130) way(2, 1, 130) group(0, 100, 0) aim(0, 0, 1) group(2, 30, 0) aim(1, 0, 1) go(2) body(1, 11) = 0 go(1) about(1, 6) = 20 body(1, 11) = 1");
     runs.run("those in CELLS do not fall", NARROW + "group(0, 100, 0) group(0, 100, 0) group(1, 100, 0) aim(0, 0, 1) go(4) body(1, 11) = 0 body(2, 11) = 0");
@@ -153,6 +158,7 @@ public final class MinutesEdgesTest {
     runs.run("the first by numbers of several", THREE + "way(0, 2, 110) way(0, 1, 105) way(1, 2, 105) group(0, 5, 0) aim(0, 0, 2) go(1) body(0, 2) = 0");
     runs.run("the first by numbers, not of fewest WAYS", THREE + "way(0, 1, 105) way(1, 2, 105) way(0, 2, 110) group(0, 5, 0) aim(0, 0, 2) go(1) body(0, 2) = 0 body(0, 3) = 5");
     runs.run("the first by numbers that leads on from its CELL", THREE + "way(1, 2, 105) way(0, 1, 105) group(0, 5, 0) aim(0, 0, 2) go(1) body(0, 2) = 1");
+    runs.run("reckoned from here to the AIM, not back", THREE + "way(0, 1, 105) way(1, 2, 105) sign(1, 1) way(0, 2, 120) group(0, 5, 0) aim(0, 0, 2) go(1) body(0, 2) = 0");
     runs.run("a shorter WAY to elsewhere is none", THREE + "way(0, 1, 101) way(0, 2, 110) group(0, 5, 0) aim(0, 0, 2) go(1) body(0, 2) = 1");
     runs.run("reckoned by SIGNS farther off", THREE + "way(0, 1, 105) way(1, 2, 105) way(0, 2, 120) sign(1, 2) group(0, 5, 0) aim(0, 0, 2) go(1) body(0, 2) = 2");
     runs.run("MINUTES to go are its LENGTH", TWO + "way(0, 1, 117) group(0, 5, 0) aim(0, 0, 1) go(1) body(0, 3) = 17");
@@ -188,6 +194,7 @@ public final class MinutesEdgesTest {
     runs.run("from HOUR 12 on", hill + "pass(721) body(0, 9) = 1");
     runs.run("to the end of HOUR 17", hill + "pass(1080) body(0, 9) = 360");
     runs.run("not in HOUR 18", hill + "pass(1081) body(0, 9) = 360 pass(359) body(0, 9) = 360");
+    runs.run("once a MINUTE, with other BODIES, too", hill + "comes(2, 0) * 3 group(0, 5, 0) stray(0, 0, 1, -1) pass(721) body(0, 9) = 1 body(4, 9) = 1");
     runs.run("each day", hill + "pass(2160) body(0, 9) = 360 go(1) body(0, 9) = 361 pass(2159) body(0, 9) = 1080");
     for (int sort = 0; sort < 4; sort++) {
       if (sort != 1) runs.run("not in SORT " + sort, "cell(" + sort + ", 0, 99999) group(0, 5, 0) pass(800) body(0, 9) = 0");
@@ -203,6 +210,7 @@ public final class MinutesEdgesTest {
     runs.run("not between", wall + "go(60) body(0, 10) = 1");
     runs.run("in MINUTE 60", wall + "go(61) body(0, 10) = 2");
     runs.run("7 times a day", wall + "pass(360) body(0, 10) = 6 go(1) body(0, 10) = 7");
+    runs.run("once, with other BODIES, too", wall + "comes(2, 0) * 3 group(0, 5, 0) stray(0, 0, 1, -1) go(1) body(0, 10) = 1 body(4, 10) = 1");
     runs.run("not an 8th time", wall + "pass(421) body(0, 10) = 7 pass(1019) body(0, 10) = 7");
     runs.run("the next day begins with MINUTE 1440", wall + "pass(1440) body(0, 10) = 7 go(1) body(0, 10) = 8");
     runs.run("7 times that day, too", wall + "pass(2880) body(0, 10) = 14 pass(1440) body(0, 10) = 21");
@@ -226,6 +234,7 @@ public final class MinutesEdgesTest {
     runs.run("0 at least", "cell(0, 9, 0) group(0, 1, 0) heat(0, 60) go(1) body(0, 8) = 33 heat(0, 0) go(9) body(0, 8) = 33");
     runs.run("on a WAY by HEAT", "cell(0, 9, 0) cell(0, 9, 0) way(0, 1, 130) group(0, 1, 0) aim(0, 0, 1) go(3) body(0, 8) = 90");
     runs.run("by the CELL in which it came out", "cell(0, 9, 0) cell(0, 5, 0) way(0, 1, 102) group(0, 1, 0) aim(0, 0, 1) go(3) body(0, 8) = 75");
+    runs.run("once a MINUTE, with other BODIES, too", "cell(0, 0, 0) group(0, 1, 0) comes(2, 0) * 3 group(0, 1, 0) stray(0, 0, 1, -1) go(2) body(0, 8) = 60 body(4, 8) = 60");
     runs.run("HEAT of the HOUR", "cell(0, 0, 0) group(0, 1, 0) heat(0, 1) heat(1, 7) go(60) body(0, 8) = 60 go(1) body(0, 8) = 67");
     runs.run("HEAT 0", "cell(0, 0, 0) group(0, 1, 0) heat(0, 0) go(60) body(0, 8) = 0");
     runs.run("not without HEADS", "cell(0, 0, 0) group(0, 1, 0) heat(0, 60) go(26) body(0, 4) = 0 body(0, 8) = 1000 go(30) body(0, 8) = 1000");

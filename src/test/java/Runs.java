@@ -65,6 +65,7 @@ final class Runs {
     for (Call c : calls) {
       String answer = ask(x, c);
       if (c.due != null && !c.due.equals(answer)) tell(sentence, c + " answered " + answer + ", due is " + c.due);
+      if (c.due == null && answer.startsWith("throws.")) tell(sentence, c + " " + answer);
       anyRefused |= c.refused;
     }
     if (calls.size() > MOST_CALLS) tell(sentence, "has " + calls.size() + " calls");

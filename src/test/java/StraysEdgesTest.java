@@ -96,6 +96,7 @@ public final class StraysEdgesTest {
   private static void bring() {
     String three = TWO + "cell(0, 0, 0) way(0, 1, 105) way(1, 2, 107) ";
     runs.run("28 the fewest MINUTES", three + "way(0, 2, 111) group(2, 5, 20) stray(0, 2, 7, -1) bring(1, 0) = 11");
+    runs.run("28 from the STRAY's CELL", three + "group(0, 5, 20) group(1, 5, 20) group(2, 5, 20) stray(1, 2, 7, -1) stray(2, 2, 7, -1) bring(3, 0) = 5 bring(3, 1) = 0 bring(3, 2) = 7 bring(4, 0) = 12 bring(4, 1) = 7 bring(4, 2) = 0");
     runs.run("28 in one CELL", three + "group(0, 5, 20) stray(0, 2, 7, -1) bring(1, 0) = 0");
     runs.run("28 no way", three + "cell(0, 0, 0) group(3, 5, 20) stray(0, 2, 7, -1) bring(1, 0) = -4");
     runs.run("28 as SIGNS let, from the STRAY", three + "sign(0, 2) group(2, 5, 20) stray(0, 2, 7, -1) bring(1, 0) = -4");

@@ -313,6 +313,8 @@ public final class TextsEdgesTest {
     String wall = "cell(2, 0, 99999) group(0, 5, 0) ";
     field("how often it has THROWN", wall + "go(61)", "w", 2, -1, 0);
     field("of no GROUP", wall + "go(61)", "w", 0, -1, -1);
+    field("in all, not on this day", wall + "pass(1441)", "w", 8, -1, 0);
+    field("in all, not on this day", hill + "pass(1500)", "t", 420, -1, 0);
     field("of another GROUP", wall + "go(61) group(0, 5, 0)", "w", 0, -1, 1);
   }
 
@@ -361,6 +363,11 @@ public final class TextsEdgesTest {
     String wall = "cell(2, 0, 99999) group(0, 5, 2) ";
     runs.run("20 THROWING without a TEXT: 2 are too few", wall, "go(120) body(0, 10) = 2 stands(0, 1, 0) = 0 schools(0, 1) = 0");
     runs.run("20 THROWING without a TEXT: 3 are enough", wall, "go(120) go(1) body(0, 10) = 3 stands(0, 1, 0) = 1 schools(0, 1) = 15 schools(0, 0) = 0");
+    runs.run("20 THROWING in all, not on one day", "cell(2, 0, 99999) cell(0, 0, 99999) way(1, 0, 101) group(1, 5, 0) aim(0, 1300, 0)",
+        "pass(1440) body(0, 10) = 2 schools(0, 1) = 0 go(1) body(0, 10) = 3 schools(0, 1) = 15 pass(1439) body(0, 10) = 9 schools(0, 1) = 15 go(1) schools(0, 1) = 15");
+    runs.run("20 of a GROUP that is not BODY 0", "cell(1, 0, 99999) cell(2, 0, 99999) comes(2, 0) comes(5, 0) group(0, 5, 2) group(1, 5, 2) pass(780)",
+        "stands(2, 0, 1) = 1 stands(2, 1, 1) = 0 stands(3, 0, 1) = 0 stands(3, 1, 1) = 1 schools(2, 0) = 15 schools(3, 0) = 0 schools(2, 1) = 0 schools(3, 1) = 15 stands(0, 0, 1) ! -1 schools(1, 0) ! -1");
+    runs.run("20 of NOW", wall + "heat(1, 7) aim(0, 60, 0) go(61) tell(\"m=61&h=1&d=0&x=7&l=1\") = 0 force(4, 0) force(0, 0) schools(0, 1) = 1 schools(0, 0) = 1 go(1) schools(0, 1) = 0 schools(0, 0) = 0");
     runs.run("20 by a TEXT alone, where one is IN FORCE", wall, "go(120) go(1) tell(\"w>3\") = 0 force(5, 0) stands(0, 1, 0) = 1 stands(0, 1, 1) = 0 schools(0, 1) = 13");
     runs.run("20 and without it again when it is no more", wall, "go(120) go(1) tell(\"w>3\") = 0 force(5, 0) force(5, -1) = 0 stands(0, 1, 1) = 1 schools(0, 1) = 15");
     runs.run("20 s is the GROUP's SCHOOL, not the one that is asked", wall, "tell(\"s=2\") = 0 force(0, 0) force(1, 0) force(2, 0) force(3, 0) schools(0, 0) = 15");

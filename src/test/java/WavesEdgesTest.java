@@ -235,6 +235,7 @@ public final class WavesEdgesTest {
     runs.run("38 SHADE in mind, too", "cell(0, 9, 0) cell(0, 9, 0) way(0, 1, 130) group(0, 100, 0) aim(0, 100, 1) worst(-1, 0, 110) = 100 heat(1, 60) worst(-1, 0, 110) = 97");
     runs.run("38 WATER in mind, too", "cell(0, 0, 9999) cell(0, 9, 0) way(0, 1, 130) group(0, 100, 0) aim(0, 100, 1) worst(-1, 0, 110) = 100 worst(-1, 0, 110) = 100");
     runs.run("38 AIMS and HEADS on WAYS in mind, too", TWO + "way(0, 1, 105) way(0, 1, 130) group(0, 30, 0) group(0, 50, 0) aim(0, 0, 1) go(2) aim(1, 3, 1) worst(-1, 0, 1) = 30 worst(-1, 0, 3) = 80");
+    runs.run("38 every BODY in mind, too", TWO + "way(0, 1, 130) comes(2, 0) * 30 group(0, 90, 0) = 30 aim(30, 1, 1) worst(-1, 0, 3) = 90 go(3) = 90 group(0, 9, 0) = 31 aim(31, 3, 1) worst(-1, 0, 1) = 85 worst(-1, 0, 3) = 88 go(3) = 88");
     runs.run("38 PUSH in mind, too", TWO + "way(0, 1, 130) group(0, 90, 0) aim(0, 0, 1) group(0, 30, 0) aim(1, 4, 1) go(3) about(0, 6) = 40 worst(-1, 0, 5) = 99 go(5) = 99");
     runs.run("38 THE IMAGE stays", CROSSING + "image() heat(0, 5) worst(0, 3, 20) = 45 restore() = 0 heat(0, 5) = 30");
     runs.run("38 to the last MINUTE", CROSSING + "pass(4200) worst(-1, 0, 120) = 0 worst(0, 3, 120) = 0");

@@ -1192,14 +1192,17 @@ public final class TentPlain {
     }
   }
 
-  /** THE RECORD and where GROUPS were, of each MINUTE. */
+  /** THE RECORD and where GROUPS were, of each MINUTE. Eight places share a long, as the room is small. */
   private static final class History {
     static final int KINDS = 5;
     static final int PUSH = 1;
     static final int ON_WAY = 100;
+    private static final int SHARING = 8;
+    private static final int PLACE_BITS = 8;
+    private static final long PLACE_MASK = 255;
 
     private final int[] records = new int[KINDS * LAST_MINUTE];
-    private final byte[] places = new byte[MAX_BODIES * LAST_MINUTE];
+    private final long[] places = new long[MAX_BODIES * LAST_MINUTE / SHARING];
 
     /** Of the MINUTE that went by last. */
     void note(Plain plain) {
@@ -1213,8 +1216,7 @@ public final class TentPlain {
       records[at + 4] = plain.allFainted();
       for (int i = 0; i < plain.groups; i++) {
         Body group = plain.groupAt(i);
-        int place = group.cell >= 0 ? group.cell : ON_WAY + group.way;
-        places[group.number * LAST_MINUTE + minute] = (byte) place;
+        notePlace(group.number * LAST_MINUTE + minute, group.cell >= 0 ? group.cell : ON_WAY + group.way);
       }
     }
 
@@ -1223,7 +1225,13 @@ public final class TentPlain {
     }
 
     int placeOf(int group, int minute) {
-      return places[group * LAST_MINUTE + minute];
+      int i = group * LAST_MINUTE + minute;
+      return (int) (places[i / SHARING] >>> i % SHARING * PLACE_BITS & PLACE_MASK);
+    }
+
+    private void notePlace(int i, long place) {
+      int shift = i % SHARING * PLACE_BITS;
+      places[i / SHARING] = places[i / SHARING] & ~(PLACE_MASK << shift) | place << shift;
     }
 
     boolean wasIn(int group, int cell, int from, int before) {

@@ -334,6 +334,17 @@ public final class MinutesEdgesTest {
     runs.run("25 WAY 23", TWO + "way(0, 1, 130) * 23 way(0, 1, 105) group(0, 9, 0) aim(0, 0, 1) go(6) was(0, 0) = 123 was(0, 4) = 123 was(0, 5) = 1");
     runs.run("25 CELL 15", "cell(0, 0, 0) * 16 group(15, 5, 0) go(1) was(0, 0) = 15");
     runs.run("25 BODY 39", TWO + "comes(2, 0) * 39 group(1, 5, 0) go(2) was(39, 1) = 1");
+    runs.run("25 BODY 39 in the last MINUTE of all", TWO + "comes(2, 0) * 39 group(1, 5, 0) = 39 pass(4320) was(39, 4319) = 1 was(39, 0) = 1 was(39, 4318) = 1");
+    runs.run("25 each MINUTE in which it walks to and fro", TWO + "way(0, 1, 101) * 24 sign(0, 3) group(0, 9, 0) aim(0, 0, 1) aim(0, 3, 0) aim(0, 5, 1)",
+        "aim(0, 9, 0) go(12) was(0, 0) = 101 was(0, 1) = 1 was(0, 2) = 1 was(0, 3) = 101 was(0, 4) = 0 was(0, 5) = 101 was(0, 6) = 1",
+        "was(0, 7) = 1 was(0, 8) = 1 was(0, 9) = 101 was(0, 10) = 0 was(0, 11) = 0");
+    runs.run("25 MINUTES that went by otherwise behind RESTORED", TWO + "way(0, 1, 130) * 24 group(0, 9, 0) go(5) image() = 5 aim(0, 0, 1) go(9)",
+        "was(0, 4) = 0 was(0, 5) = 100 was(0, 13) = 100 restore() = 5 was(0, 5) ! -3 unaim(0) = 0 sign(0, 3) aim(0, 7, 1) = 1 go(9)",
+        "was(0, 4) = 0 was(0, 5) = 0 was(0, 6) = 0 was(0, 7) = 101 was(0, 8) = 101 was(0, 13) = 101");
+    runs.run("25 MINUTES that went by otherwise: back from a WAY", TWO + "way(0, 1, 130) * 24 sign(0, 3) go(3) group(0, 9, 0) image() = 3 aim(0, 0, 1) go(13)",
+        "was(0, 3) = 101 was(0, 15) = 101 restore() = 3 go(13) was(0, 3) = 0 was(0, 7) = 0 was(0, 8) = 0 was(0, 15) = 0 was(0, 2) ! -3");
+    runs.run("25 GROUPS whose numbers are next to one another", TWO + "group(0, 9, 0) group(1, 9, 0) group(0, 9, 0) pass(4320)",
+        "was(0, 0) = 0 was(0, 4319) = 0 was(1, 0) = 1 was(1, 4319) = 1 was(2, 0) = 0 was(2, 4319) = 0");
     runs.run("25 NOW didn't go by", ALL_KINDS + "go(3) was(0, 3) ! -3 was(0, 4319) ! -3");
     runs.run("25 none went by", ALL_KINDS + "was(0, 0) ! -3");
     runs.run("25 MINUTE 4320 is one that doesn't go by", ALL_KINDS + "was(0, 4320) ! -3 pass(4320) was(0, 4320) ! -3 was(0, 4319) = 0");
